@@ -115,8 +115,7 @@ public final class SpongeDesk {
     }
 
     public int left(int k) throws IndexOutOfBoundsException {
-        Sponge sponge = spongeAt(k);
-        return sponge.ended ? sponge.remaining : NONE;
+        return spongeAt(k).remaining;
     }
 
     public void copy(int k, int i) throws IndexOutOfBoundsException {
@@ -220,6 +219,7 @@ public final class SpongeDesk {
         private int ending;
         private int taken;
         private boolean ended;
+        // NONE before the end, and behind it when there is no end to the bytes.
         private int remaining;
 
         Sponge() {

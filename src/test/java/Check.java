@@ -33,6 +33,14 @@ final class Check {
         same(what, answer(call), "throws." + due.getSimpleName());
     }
 
+    /** A call without an answer, as one that answers "done". */
+    static Callable<Object> done(Runnable call) {
+        return () -> {
+            call.run();
+            return "done";
+        };
+    }
+
     /** What a call answers, or throws., and the name of what it throws. */
     static String answer(Callable<Object> call) {
         try {

@@ -1,6 +1,5 @@
 import java.security.MessageDigest;
 import java.security.NoSuchAlgorithmException;
-import java.util.concurrent.Callable;
 
 /** Each promise by itself: ordinary inputs, the edges that the document names, and wrong inputs. */
 public final class PromisesTest {
@@ -19,6 +18,7 @@ public final class PromisesTest {
         promise4Let();
         promise5Begin();
         promise5BeginTakesWhatIsLetNow();
+        promise5BeginWhereTheWidthIsFull();
         promise6Absorb();
         promise6AbsorbOfTuples();
         promise7Bytes();
@@ -168,10 +168,10 @@ public final class PromisesTest {
         }
         SpongeDesk desk = new SpongeDesk();
         for (int k : NO_SPONGE) {
-            Check.refused("begin(" + k + ", 0)", INDEX, done(() -> desk.begin(k, 0)));
+            Check.refused("begin(" + k + ", 0)", INDEX, Check.done(() -> desk.begin(k, 0)));
         }
         for (int kind : new int[] {-1, 16, 17, Integer.MIN_VALUE, Integer.MAX_VALUE}) {
-            Check.refused("begin(0, " + kind + ")", ARGUMENT, done(() -> desk.begin(0, kind)));
+            Check.refused("begin(0, " + kind + ")", ARGUMENT, Check.done(() -> desk.begin(0, kind)));
         }
     }
 
@@ -195,6 +195,25 @@ public final class PromisesTest {
             Check.same("begin anew has not ended", desk.kind(2), kind);
             Check.same("begin anew has none left", desk.left(2), -1);
             Check.same("begin anew counts anew", desk.absorb(2), 0);
+        }
+    }
+
+    /** What comes in first fills the width just so, or has one byte more or less. */
+    private static void promise5BeginWhereTheWidthIsFull() {
+        for (int kind = 6; kind < 16; kind++) {
+            int nameSize = kind < 8 ? 0 : kind < 12 ? 4 : 9;
+            int customFits = WIDTHS[kind] - 2 - (2 + nameSize) - 3;
+            int keyFits = WIDTHS[kind] - 2 - 3;
+            for (int more = -1; more <= 1; more++) {
+                SpongeDesk desk = new SpongeDesk();
+                Model model = new Model();
+                Rows.let(desk, 1, Rows.odd(customFits + more, kind));
+                modelLets(model, 1, Rows.odd(customFits + more, kind));
+                agrees("begin: custom fits but for " + more + ", kind " + kind, desk, model, kind);
+                Rows.let(desk, 2, Rows.odd(keyFits + more, kind));
+                modelLets(model, 2, Rows.odd(keyFits + more, kind));
+                agrees("begin: key fits but for " + more + ", kind " + kind, desk, model, kind);
+            }
         }
     }
 
@@ -287,10 +306,10 @@ public final class PromisesTest {
             desk.begin(3, kind);
             desk.end(3, due);
             Check.same("end: ended", desk.kind(3), kind + 16);
-            Check.refused("end: twice", STATE, done(() -> desk.end(3, due)));
-            Check.refused("end: twice, another length", ARGUMENT, done(() -> desk.end(3, 1001)));
+            Check.refused("end: twice", STATE, Check.done(() -> desk.end(3, due)));
+            Check.refused("end: twice, another length", ARGUMENT, Check.done(() -> desk.end(3, 1001)));
             for (int k : NO_SPONGE) {
-                Check.refused("end(" + k + ")", INDEX, done(() -> desk.end(k, 28)));
+                Check.refused("end(" + k + ")", INDEX, Check.done(() -> desk.end(k, 28)));
             }
         }
         endWithChosenLengths();
@@ -302,7 +321,7 @@ public final class PromisesTest {
         }
         SpongeDesk desk = new SpongeDesk();
         desk.begin(3, kind);
-        Check.refused("end(3, " + length + "), kind " + kind, ARGUMENT, done(() -> desk.end(3, length)));
+        Check.refused("end(3, " + length + "), kind " + kind, ARGUMENT, Check.done(() -> desk.end(3, length)));
         Check.same("end: not ended", desk.kind(3), kind);
     }
 
@@ -441,9 +460,9 @@ public final class PromisesTest {
         desk.copy(3, 3);
         Check.same("copy: onto itself", Rows.squeeze(desk, 3, 22), digest("SHA3-256", Rows.of("abcd")).substring(20));
         for (int k : NO_SPONGE) {
-            Check.refused("copy(" + k + ", 0)", INDEX, done(() -> desk.copy(k, 0)));
-            Check.refused("copy(0, " + k + ")", INDEX, done(() -> desk.copy(0, k)));
-            Check.refused("copy(" + k + ", " + k + ")", INDEX, done(() -> desk.copy(k, k)));
+            Check.refused("copy(" + k + ", 0)", INDEX, Check.done(() -> desk.copy(k, 0)));
+            Check.refused("copy(0, " + k + ")", INDEX, Check.done(() -> desk.copy(0, k)));
+            Check.refused("copy(" + k + ", " + k + ")", INDEX, Check.done(() -> desk.copy(k, k)));
         }
         copyOfEachKind();
     }
@@ -589,15 +608,15 @@ public final class PromisesTest {
             Check.same("no room", desk.feed(3, 7), -1);
             Check.refused("no such size", ARGUMENT, () -> desk.feed(0, 7));
             Check.refused("no such row", ARGUMENT, () -> desk.let(3));
-            Check.refused("no such kind", ARGUMENT, done(() -> desk.begin(0, 16)));
+            Check.refused("no such kind", ARGUMENT, Check.done(() -> desk.begin(0, 16)));
             Check.refused("no such size", ARGUMENT, () -> desk.bytes(0, 9, 7));
             Check.refused("tuples alone", STATE, () -> desk.bytes(1, 8, 7));
-            Check.refused("no such length", ARGUMENT, done(() -> desk.end(0, 0)));
-            Check.refused("no such length", ARGUMENT, done(() -> desk.end(1, 32)));
+            Check.refused("no such length", ARGUMENT, Check.done(() -> desk.end(0, 0)));
+            Check.refused("no such length", ARGUMENT, Check.done(() -> desk.end(1, 32)));
             Check.refused("not ended", STATE, () -> desk.squeeze(0, 8));
             Check.refused("not ended", STATE, () -> desk.same(0, 1, 8));
-            Check.refused("no such sponge", INDEX, done(() -> desk.copy(0, 4)));
-            Check.refused("no such sponge", INDEX, done(() -> desk.copy(-1, 0)));
+            Check.refused("no such sponge", INDEX, Check.done(() -> desk.copy(0, 4)));
+            Check.refused("no such sponge", INDEX, Check.done(() -> desk.copy(-1, 0)));
             Check.same("none before the end", desk.left(0), -1);
         }
         Check.same("the tape as it was", desk.absorb(0), model.absorb(0));
@@ -607,8 +626,8 @@ public final class PromisesTest {
         desk.end(1, 0);
         model.end(1, 0);
         for (int times = 0; times < 3; times++) {
-            Check.refused("ended", STATE, done(() -> desk.end(0, 9)));
-            Check.refused("ended", STATE, done(() -> desk.end(0, 8)));
+            Check.refused("ended", STATE, Check.done(() -> desk.end(0, 9)));
+            Check.refused("ended", STATE, Check.done(() -> desk.end(0, 8)));
             Check.refused("ended", STATE, () -> desk.absorb(0));
             Check.refused("ended", STATE, () -> desk.bytes(0, 1, 7));
             Check.refused("no such size", ARGUMENT, () -> desk.squeeze(0, 9));
@@ -625,11 +644,11 @@ public final class PromisesTest {
     private static void theFirstNamedIsThrown() {
         SpongeDesk desk = new SpongeDesk();
         desk.end(1, 28);
-        Check.refused("begin: both wrong", INDEX, done(() -> desk.begin(4, 16)));
+        Check.refused("begin: both wrong", INDEX, Check.done(() -> desk.begin(4, 16)));
         Check.refused("bytes: both wrong", INDEX, () -> desk.bytes(-1, 0, 0));
         Check.refused("bytes: size and ended", ARGUMENT, () -> desk.bytes(1, 0, 0));
-        Check.refused("end: both wrong", INDEX, done(() -> desk.end(4, 29)));
-        Check.refused("end: length and ended", ARGUMENT, done(() -> desk.end(1, 29)));
+        Check.refused("end: both wrong", INDEX, Check.done(() -> desk.end(4, 29)));
+        Check.refused("end: length and ended", ARGUMENT, Check.done(() -> desk.end(1, 29)));
         Check.refused("squeeze: both wrong", INDEX, () -> desk.squeeze(4, 9));
         Check.refused("squeeze: size and not ended", ARGUMENT, () -> desk.squeeze(0, 9));
         Check.refused("same: all wrong", INDEX, () -> desk.same(0, 4, 65));
@@ -668,12 +687,5 @@ public final class PromisesTest {
 
     private static String digest(String name, byte[]... rows) throws NoSuchAlgorithmException {
         return Rows.hex(MessageDigest.getInstance(name).digest(Model.join(rows)));
-    }
-
-    private static Callable<Object> done(Runnable call) {
-        return () -> {
-            call.run();
-            return "done";
-        };
     }
 }

@@ -60,8 +60,8 @@ public final class RandomRunsTest {
         switch (random.nextInt(20)) {
             case 0: case 1: {
                 int kind = random.nextInt(20) == 0 ? wild() : random.nextInt(16);
-                both("begin(" + k + ", " + kind + ")", done(() -> desk.begin(k, kind)),
-                    done(() -> model.begin(k, kind)));
+                both("begin(" + k + ", " + kind + ")", Check.done(() -> desk.begin(k, kind)),
+                    Check.done(() -> model.begin(k, kind)));
                 break;
             }
             case 2: case 3: case 4:
@@ -76,12 +76,12 @@ public final class RandomRunsTest {
             }
             case 8: case 9: {
                 int length = lengthFor(k);
-                both("end(" + k + ", " + length + ")", done(() -> desk.end(k, length)),
-                    done(() -> model.end(k, length)));
+                both("end(" + k + ", " + length + ")", Check.done(() -> desk.end(k, length)),
+                    Check.done(() -> model.end(k, length)));
                 break;
             }
             case 10:
-                both("copy(" + k + ", " + i + ")", done(() -> desk.copy(k, i)), done(() -> model.copy(k, i)));
+                both("copy(" + k + ", " + i + ")", Check.done(() -> desk.copy(k, i)), Check.done(() -> model.copy(k, i)));
                 break;
             case 11:
                 both("left(" + k + ")", () -> desk.left(k), () -> model.left(k));
@@ -120,13 +120,6 @@ public final class RandomRunsTest {
         }
         int due = DUE[model.kind(k) % 16];
         return due == 1 ? 1 + random.nextInt(random.nextBoolean() ? 1000 : 40) : due;
-    }
-
-    private static Callable<Object> done(Runnable call) {
-        return () -> {
-            call.run();
-            return "done";
-        };
     }
 
     private void both(String what, Callable<Object> got, Callable<Object> due) {
