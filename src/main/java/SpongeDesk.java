@@ -287,7 +287,7 @@ public final class SpongeDesk {
             }
             mix(place, ending);
             mix(width - 1, LAST_BIT);
-            turnOver();
+            permute();
             ended = true;
             remaining = length == 0 ? NONE : length;
         }
@@ -309,7 +309,7 @@ public final class SpongeDesk {
 
         long giveByte() {
             if (place >= width) {
-                turnOver();
+                permute();
             }
             long given = (lanes[place >>> 3] >>> (8 * (place & 7))) & 255L;
             place++;
@@ -330,19 +330,17 @@ public final class SpongeDesk {
         private void takeLeft(int value) {
             int size = sizeOf(value);
             takeByte(size);
-            takeNumber(value, size);
+            for (int i = size - 1; i >= 0; i--) {
+                takeByte(value >>> (8 * i));
+            }
         }
 
         private void takeRight(int value) {
             int size = sizeOf(value);
-            takeNumber(value, size);
-            takeByte(size);
-        }
-
-        private void takeNumber(int value, int size) {
             for (int i = size - 1; i >= 0; i--) {
                 takeByte(value >>> (8 * i));
             }
+            takeByte(size);
         }
 
         private static int sizeOf(int value) {
@@ -357,14 +355,14 @@ public final class SpongeDesk {
             mix(place, value);
             place++;
             if (place >= width) {
-                turnOver();
+                permute();
             }
         }
 
         /** Bytes 0 change nothing as they come in, so that only the permutation behind them is left. */
         private void fillUp() {
             if (place > 0) {
-                turnOver();
+                permute();
             }
         }
 
@@ -372,13 +370,18 @@ public final class SpongeDesk {
             lanes[at >>> 3] ^= (value & 255L) << (8 * (at & 7));
         }
 
-        private void turnOver() {
-            Permutation.apply(lanes);
+        private void permute() {
+            for (int round = 0; round < Permutation.ROUNDS; round++) {
+                Permutation.mixColumns(lanes);
+                Permutation.moveLanes(lanes);
+                Permutation.mixRows(lanes);
+                lanes[0] ^= Permutation.ROUND_BITS[round];
+            }
             place = 0;
         }
     }
 
-    /** The permutation, over 25 lanes of 64 bits: lane (x, y) is number 5 y + x. */
+    /** The steps of the permutation, over 25 lanes of 64 bits: lane (x, y) is number 5 y + x. */
     private static final class Permutation {
         private static final int LANES = 25;
         private static final int ROUNDS = 24;
@@ -401,16 +404,7 @@ public final class SpongeDesk {
             0x8000000080008081L, 0x8000000000008080L, 0x0000000080000001L, 0x8000000080008008L
         };
 
-        static void apply(long[] lanes) {
-            for (int round = 0; round < ROUNDS; round++) {
-                mixColumns(lanes);
-                moveLanes(lanes);
-                mixRows(lanes);
-                lanes[0] ^= ROUND_BITS[round];
-            }
-        }
-
-        private static void mixColumns(long[] lanes) {
+        static void mixColumns(long[] lanes) {
             long c0 = lanes[0] ^ lanes[5] ^ lanes[10] ^ lanes[15] ^ lanes[20];
             long c1 = lanes[1] ^ lanes[6] ^ lanes[11] ^ lanes[16] ^ lanes[21];
             long c2 = lanes[2] ^ lanes[7] ^ lanes[12] ^ lanes[17] ^ lanes[22];
@@ -430,7 +424,7 @@ public final class SpongeDesk {
             }
         }
 
-        private static void moveLanes(long[] lanes) {
+        static void moveLanes(long[] lanes) {
             long moving = lanes[1];
             for (int t = 0; t < PATH.length; t++) {
                 int target = PATH[t];
@@ -441,7 +435,7 @@ public final class SpongeDesk {
             }
         }
 
-        private static void mixRows(long[] lanes) {
+        static void mixRows(long[] lanes) {
             for (int first = 0; first < LANES; first += 5) {
                 long a = lanes[first];
                 long b = lanes[first + 1];

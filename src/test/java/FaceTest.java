@@ -44,7 +44,7 @@ public final class FaceTest {
         Check.yes("the class is public and final",
             Modifier.isPublic(SpongeDesk.class.getModifiers()) && Modifier.isFinal(SpongeDesk.class.getModifiers()));
         Check.same("constructors", SpongeDesk.class.getDeclaredConstructors().length, 1);
-        Check.same("public constructors without parameters", SpongeDesk.class.getConstructors()[0].getParameterCount(), 0);
+        Check.same("public constructor's parameters", SpongeDesk.class.getConstructors()[0].getParameterCount(), 0);
         Set<String> face = new TreeSet<>();
         for (Method method : SpongeDesk.class.getDeclaredMethods()) {
             if (!Modifier.isPrivate(method.getModifiers())) {

@@ -81,7 +81,8 @@ public final class RandomRunsTest {
                 break;
             }
             case 10:
-                both("copy(" + k + ", " + i + ")", Check.done(() -> desk.copy(k, i)), Check.done(() -> model.copy(k, i)));
+                both("copy(" + k + ", " + i + ")", Check.done(() -> desk.copy(k, i)),
+                    Check.done(() -> model.copy(k, i)));
                 break;
             case 11:
                 both("left(" + k + ")", () -> desk.left(k), () -> model.left(k));
