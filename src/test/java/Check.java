@@ -8,6 +8,25 @@ final class Check {
     private Check() {
     }
 
+    /** One boundary case of the document by itself: it must look at something, and nothing else may stop it. */
+    static void edge(String words, Runnable test) {
+        int wrongBefore = wrong;
+        int seenBefore = seen;
+        try {
+            test.run();
+        } catch (Throwable thrown) {
+            wrong++;
+            System.out.println("the test was stopped by " + thrown);
+        }
+        if (seen == seenBefore) {
+            wrong++;
+            System.out.println("the test looked at nothing");
+        }
+        if (wrong > wrongBefore) {
+            System.out.println("NOT AS DUE: " + words);
+        }
+    }
+
     static void same(String what, Object got, Object want) {
         seen++;
         if (!got.equals(want)) {

@@ -3,13 +3,13 @@ import java.security.NoSuchAlgorithmException;
 
 /** Each promise by itself: ordinary inputs, the edges that the document names, and wrong inputs. */
 public final class PromisesTest {
-    private static final Class<?> INDEX = IndexOutOfBoundsException.class;
-    private static final Class<?> ARGUMENT = IllegalArgumentException.class;
-    private static final Class<?> STATE = IllegalStateException.class;
-    private static final int[] NO_SPONGE = {-1, 4, 5, Integer.MIN_VALUE, Integer.MAX_VALUE};
-    private static final int[] NO_SIZE = {-1, 0, 9, Integer.MIN_VALUE, Integer.MAX_VALUE};
-    private static final int[] LENGTHS = {28, 32, 48, 64, 0, 0, 0, 0, 1000, 1000, 0, 0, 1000, 1000, 0, 0};
-    private static final int[] WIDTHS = {144, 136, 104, 72, 168, 136, 168, 136, 168, 136, 168, 136, 168, 136, 168, 136};
+    private static final Class<?> INDEX = Edges.INDEX;
+    private static final Class<?> ARGUMENT = Edges.ARGUMENT;
+    private static final Class<?> STATE = Edges.STATE;
+    private static final int[] NO_SPONGE = Edges.NO_SPONGE;
+    private static final int[] NO_SIZE = Edges.NO_SIZE;
+    private static final int[] LENGTHS = Edges.LENGTHS;
+    private static final int[] WIDTHS = Edges.WIDTHS;
 
     public static void main(String[] args) throws NoSuchAlgorithmException {
         promise1NewObject();

@@ -11,6 +11,14 @@ final class Rows {
         return row;
     }
 
+    static byte[] ofHex(String digits) {
+        byte[] row = new byte[digits.length() / 2];
+        for (int i = 0; i < row.length; i++) {
+            row[i] = (byte) Integer.parseInt(digits.substring(2 * i, 2 * i + 2), 16);
+        }
+        return row;
+    }
+
     static byte[] upFrom(int first, int length) {
         byte[] row = new byte[length];
         for (int i = 0; i < length; i++) {
@@ -68,6 +76,13 @@ final class Rows {
             step = step % 8 + 1;
         }
         return digits.toString();
+    }
+
+    /** Lets so many bytes come out, in as few calls as can be. */
+    static void skip(SpongeDesk desk, int k, int count) {
+        for (int from = 0; from < count; from += 8) {
+            desk.squeeze(k, Math.min(8, count - from));
+        }
     }
 
     static String hex(byte... row) {
