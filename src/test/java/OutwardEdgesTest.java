@@ -177,7 +177,8 @@ public final class OutwardEdgesTest {
                 SpongeDesk desk = Edges.deskEnded(kind, n);
                 String right = "0" + Integer.toHexString(8 * n);
                 PlainSponge due = Edges.begun(kind).in(right.substring(right.length() - 2)).in("01").end(4);
-                Check.same(n + " of " + n + ", kind " + kind, Rows.hex(Model.lowest(n, desk.squeeze(0, n))), due.out(n));
+                Check.same(n + " of " + n + ", kind " + kind, Rows.hex(Model.lowest(n, desk.squeeze(0, n))),
+                    due.out(n));
                 Check.same("left(0)", desk.left(0), 0);
             }
         }
@@ -625,6 +626,7 @@ public final class OutwardEdgesTest {
             for (int n = 1; n <= 64; n++) {
                 Check.yes("same(0, 0, " + n + "), kind " + kind, desk.same(0, 0, n));
             }
+            Check.same("nothing came out, kind " + kind, Rows.squeeze(desk, 0, 64), dueOf(kind, 0, 64));
         }
     }
 

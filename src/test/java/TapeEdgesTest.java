@@ -20,6 +20,7 @@ public final class TapeEdgesTest {
         Check.edge("Promise 1: sponges 0 to 3 have just begun", TapeEdgesTest::justBegun);
         Check.edge("Promise 1: they have begun with the kind 0", TapeEdgesTest::begunWithKind0);
         Check.edge("Promise 1: a new object has nothing of another", TapeEdgesTest::nothingOfAnother);
+        Check.edge("Promise 1: two objects go on side by side", TapeEdgesTest::sideBySide);
     }
 
     private static void feed() {
@@ -124,6 +125,34 @@ public final class TapeEdgesTest {
         Check.same("custom and key", Edges.madeOfTape(desk, 8), due);
         Check.same("the tape of the one before", used.wipe(), 20);
         Check.same("kind(2) of the one before", used.kind(2), 24);
+    }
+
+    private static void sideBySide() {
+        SpongeDesk one = Edges.deskWith(4);
+        SpongeDesk other = Edges.deskWith(5);
+        for (int n = 1; n <= 8; n++) {
+            one.feed(n, LONG);
+            other.feed(9 - n, ~LONG);
+            one.bytes(0, n, LONG);
+            other.bytes(0, 9 - n, ~LONG);
+        }
+        byte[] due = {};
+        byte[] otherDue = {};
+        for (int n = 1; n <= 8; n++) {
+            due = Model.join(due, Model.lowest(n, LONG));
+            otherDue = Model.join(otherDue, Model.lowest(9 - n, ~LONG));
+        }
+        one.end(0, 0);
+        other.end(0, 0);
+        String dueOut = new PlainSponge(168).in(due).end(31).out(24);
+        String otherOut = new PlainSponge(136).in(otherDue).end(31).out(24);
+        for (int from = 0; from < 24; from += 8) {
+            Check.same("one", Rows.hex(Model.lowest(8, one.squeeze(0, 8))), dueOut.substring(2 * from, 2 * from + 16));
+            Check.same("the other", Rows.hex(Model.lowest(8, other.squeeze(0, 8))),
+                otherOut.substring(2 * from, 2 * from + 16));
+        }
+        Edges.tapeIs("the tape of one", one, due);
+        Edges.tapeIs("the tape of the other", other, otherDue);
     }
 
     private static void feedEachSize() {
