@@ -1,19 +1,14 @@
-import java.io.IOException;
 import java.lang.reflect.Field;
 import java.lang.reflect.Method;
 import java.lang.reflect.Modifier;
-import java.nio.file.Files;
-import java.nio.file.Path;
 import java.util.Arrays;
 import java.util.HashSet;
 import java.util.Set;
 import java.util.TreeSet;
-import java.util.regex.Pattern;
 
-/** The public face of the document, and the rules of LANGUAGE.md that can be seen from outside. */
+/** The public face of the document, and rule 1 of LANGUAGE.md, which speaks of it. */
 public final class FaceTest {
-    private static final Path SOURCE = Path.of("src/main/java/SpongeDesk.java");
-    private static final String[] FACE = {
+    static final String[] FACE = {
         "int feed(int, long) IllegalArgumentException",
         "int wipe()",
         "int let(int) IllegalArgumentException",
@@ -27,16 +22,11 @@ public final class FaceTest {
         "int kind(int) IndexOutOfBoundsException",
         "boolean same(int, int, int) IndexOutOfBoundsException IllegalArgumentException IllegalStateException",
     };
-    private static final String[] OUTSIDE_THE_RULES = {
-        "\\bfinally\\b", "\\bsynchronized\\b", "\\bassert\\b", "\\btry\\b", "->", "::", "Exact\\(",
-        "\\bMath\\.random\\b", "\\bnanoTime\\b", "\\bcurrentTimeMillis\\b", "\\bpackage\\b", "static \\{",
-    };
 
-    public static void main(String[] args) throws IOException {
+    public static void main(String[] args) {
         members();
         names(SpongeDesk.class);
         insides();
-        source();
         Check.close();
     }
 
@@ -49,6 +39,7 @@ public final class FaceTest {
         for (Method method : SpongeDesk.class.getDeclaredMethods()) {
             if (!Modifier.isPrivate(method.getModifiers())) {
                 face.add(told(method));
+                Check.same("modifiers of " + method.getName(), Modifier.toString(method.getModifiers()), "public");
             }
         }
         Check.same("the methods", face, new TreeSet<>(Arrays.asList(FACE)));
@@ -83,39 +74,12 @@ public final class FaceTest {
             if (!Modifier.isPublic(method.getModifiers())) {
                 Check.no("a method inside bears a public name: " + method, open.contains(method.getName()));
             }
-            Check.yes("seven parameters at most: " + method, method.getParameterCount() <= 7);
         }
     }
 
     private static void insides() {
-        Class<?>[] insides = SpongeDesk.class.getDeclaredClasses();
-        Check.yes("twelve classes at most", insides.length <= 12);
-        for (Class<?> inside : insides) {
-            Check.yes("static: " + inside, Modifier.isStatic(inside.getModifiers()));
-            Check.no("not public: " + inside, Modifier.isPublic(inside.getModifiers()));
+        for (Class<?> inside : SpongeDesk.class.getDeclaredClasses()) {
             names(inside);
-            statics(inside);
-        }
-        statics(SpongeDesk.class);
-    }
-
-    private static void statics(Class<?> type) {
-        for (Field field : type.getDeclaredFields()) {
-            if (Modifier.isStatic(field.getModifiers())) {
-                Check.yes("final: " + field, Modifier.isFinal(field.getModifiers()));
-            }
-        }
-    }
-
-    private static void source() throws IOException {
-        String text = Files.readString(SOURCE);
-        for (String line : text.split("\n")) {
-            if (line.startsWith("import ")) {
-                Check.same("the library", line, "import java.util.Arrays;");
-            }
-        }
-        for (String pattern : OUTSIDE_THE_RULES) {
-            Check.no("outside the rules: " + pattern, Pattern.compile(pattern).matcher(text).find());
         }
     }
 }
